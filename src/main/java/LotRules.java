@@ -286,12 +286,6 @@ public final class LotRules {
         }
     }
 
-    private void runAll() {
-        for (int i = 0; i < itemCount; i++) {
-            runItem(i);
-        }
-    }
-
     /** Holds once the machine has been followed. */
     private long timeOf(int period) {
         long sum = 0;
@@ -336,9 +330,9 @@ public final class LotRules {
     }
 
     private long holdPrices() {
-        runAll();
         long sum = 0;
         for (int i = 0; i < itemCount; i++) {
+            runItem(i);
             for (int p = 1; p <= last; p++) {
                 sum += (long) items[i].numbers[HOLD] * Math.max(0, items[i].store.stocks[p]);
             }
@@ -356,7 +350,9 @@ public final class LotRules {
     }
 
     private void findFaults() {
-        runAll();
+        for (int i = 0; i < itemCount; i++) {
+            runItem(i);
+        }
         machine.follow(items, itemCount);
         found.size = 0;
         for (int p = 1; p <= last; p++) {
@@ -566,15 +562,15 @@ public final class LotRules {
         }
 
         private void choose(int period, int setup, int hold, int shelf) {
-            boolean mayRest = nets[period] == 0;
-            long least = mayRest ? costs[period + 1] : Long.MAX_VALUE;
+            // Making nothing, where that may be, is what every lot has to undercut.
+            long least = nets[period] == 0 ? costs[period + 1] : Long.MAX_VALUE;
             int until = period - 1;
             int end = shelf > 0 ? Math.min(last, period + shelf) : last;
             long paid = setup;
             for (int q = period; q <= end; q++) {
                 paid += (long) hold * nets[q] * (q - period);
                 long cost = paid + costs[q + 1];
-                // Among equals the longest lot is due, but a rest goes before any lot.
+                // Among lots that cost the same the longest one is due.
                 boolean longer = cost == least && until >= period;
                 if (cost < least || longer) {
                     least = cost;

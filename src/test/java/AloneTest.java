@@ -204,6 +204,8 @@ public final class AloneTest {
         check.same("share(0, 2) is cut", x.share(0, 2), 2857);
         x.over(0, 0);
         check.same("a share of 0", x.share(2, 3), 0);
+        x.over(0, 1);
+        check.same("a share by a price of 1", x.share(0, 2), 20000);
     }
 
     private static void promise21ShareRefusesAndThrows() {

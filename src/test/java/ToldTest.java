@@ -325,6 +325,9 @@ public final class ToldTest {
         x.over(1, 1000);
         x.over(0, 100);
         check.same("price(2), whatever is the most over", x.price(2), 700);
+        x.make(0, 3, 1);
+        check.same("price(0) with a set-up in the last period", x.price(0), 1200);
+        check.same("price(2) with time in the last period", x.price(2), 900);
         check.same("price(4)", x.price(4), LotRules.NOTHING);
         for (int wild : WILD) {
             check.same("no such price", x.price(wild), LotRules.NOTHING);

@@ -1,15 +1,5 @@
 /** Promises 18 to 21: the best row of an item alone, and shares of prices. */
-public final class AloneTest {
-    private static final int SETUP = 0;
-    private static final int HOLD = 1;
-    private static final int LEAST = 2;
-    private static final int SHELF = 3;
-    private static final int START = 4;
-    private static final int TIME = 5;
-    private static final int SETUP_TIME = 6;
-    private static final int LEAD = 7;
-    private static final int[] WILD = {Integer.MIN_VALUE, -5, -4, -3, -2, -1, Integer.MAX_VALUE};
-
+public final class AloneTest extends Given {
     private static final Check check = new Check();
 
     public static void main(String[] args) {
@@ -23,25 +13,6 @@ public final class AloneTest {
         promise21Share();
         promise21ShareRefusesAndThrows();
         check.end("AloneTest");
-    }
-
-    private static LotRules withItems(int periods, int items) {
-        LotRules x = new LotRules(periods);
-        for (int i = 0; i < items; i++) {
-            x.item();
-        }
-        return x;
-    }
-
-    private static LotRules oneItem(int setup, int hold, int shelf, int... needs) {
-        LotRules x = withItems(needs.length, 1);
-        x.set(0, SETUP, setup);
-        x.set(0, HOLD, hold);
-        x.set(0, SHELF, shelf);
-        for (int p = 1; p <= needs.length; p++) {
-            x.need(0, p, needs[p - 1]);
-        }
-        return x;
     }
 
     private static void bestLots(String what, LotRules x, long cost, long... due) {

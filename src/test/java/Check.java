@@ -29,12 +29,16 @@ final class Check {
 
     void shareThrows(LotRules x, int what, int by) {
         boolean thrown = false;
+        boolean byTheMachine = false;
         try {
             x.share(what, by);
         } catch (ArithmeticException e) {
             thrown = true;
+            byTheMachine = "/ by zero".equals(e.getMessage());
         }
-        holds("share(" + what + ", " + by + ") throws ArithmeticException", thrown);
+        String call = "share(" + what + ", " + by + ")";
+        holds(call + " throws ArithmeticException", thrown);
+        holds(call + " throws it by a throw statement, not by a division", !byTheMachine);
     }
 
     void end(String name) {

@@ -77,12 +77,13 @@ public final class FaceTest {
         }
         for (Method m : LotRules.class.getDeclaredMethods()) {
             int modifiers = m.getModifiers();
-            check.holds(m.getName() + " is public or private", Modifier.isPublic(modifiers) || Modifier.isPrivate(modifiers));
             boolean hidden = Modifier.isPrivate(modifiers);
+            check.holds(m.getName() + " is public or private", Modifier.isPublic(modifiers) || hidden);
             check.holds(m.getName() + " bears a name of its own", !(hidden && faceNames.contains(m.getName())));
         }
         for (Field f : LotRules.class.getDeclaredFields()) {
-            check.holds(f.getName() + " is private", Modifier.isPrivate(f.getModifiers()) || f.getName().equals("NOTHING"));
+            boolean hidden = Modifier.isPrivate(f.getModifiers());
+            check.holds(f.getName() + " is private", hidden || f.getName().equals("NOTHING"));
         }
     }
 

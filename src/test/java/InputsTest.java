@@ -1,8 +1,5 @@
 /** Promises 1 to 8: a new object, and the calls that change it. */
-public final class InputsTest {
-    private static final int[] MOST = {10000, 100, 1000, 12, 1000, 20, 200, 3};
-    private static final int[] WILD = {Integer.MIN_VALUE, -5000, -4, -3, -2, -1, Integer.MAX_VALUE};
-
+public final class InputsTest extends Given {
     private static final Check check = new Check();
 
     public static void main(String[] args) {
@@ -20,14 +17,6 @@ public final class InputsTest {
         promise7Capacity();
         promise8Over();
         check.end("InputsTest");
-    }
-
-    private static LotRules withItems(int periods, int items) {
-        LotRules x = new LotRules(periods);
-        for (int i = 0; i < items; i++) {
-            x.item();
-        }
-        return x;
     }
 
     private static int periodsOf(LotRules x) {

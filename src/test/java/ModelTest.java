@@ -4,9 +4,6 @@ import java.util.Random;
 public final class ModelTest {
     private static final int RUNS = 400;
     private static final int CALLS = 512;
-    private static final long THREW = Long.MIN_VALUE + 1;
-    private static final String[] NAMES = {"item", "set", "need", "part", "make", "capacity", "over", "gross", "stock",
-        "spoilt", "isSetUp", "stands", "time", "price", "faults", "fault", "best", "lot", "from", "share"};
     private static final int[] MOST = {10000, 100, 1000, 12, 1000, 20, 200, 3};
     private static final int[] WILD = {Integer.MIN_VALUE, Integer.MIN_VALUE + 1, -100, -2, -1, 14, 31, 32, 64, 5001,
         10001, Integer.MAX_VALUE - 1, Integer.MAX_VALUE};
@@ -117,38 +114,9 @@ public final class ModelTest {
     }
 
     private void compare(int seed, int which, int a, int b, int c) {
-        String call = "run " + seed + ": " + NAMES[which] + "(" + a + ", " + b + ", " + c + ")";
-        check.same(call, ask(which, a, b, c), due(which, a, b, c));
-    }
-
-    private long ask(int which, int a, int b, int c) {
-        switch (which) {
-            case 0: return x.item();
-            case 1: return x.set(a, b, c);
-            case 2: return x.need(a, b, c);
-            case 3: return x.part(a, b, c);
-            case 4: return x.make(a, b, c);
-            case 5: return x.capacity(a, b);
-            case 6: return x.over(a, b);
-            case 7: return x.gross(a, b);
-            case 8: return x.stock(a, b);
-            case 9: return x.spoilt(a, b);
-            case 10: return x.isSetUp(a, b);
-            case 11: return x.stands(a);
-            case 12: return x.time(a);
-            case 13: return x.price(a);
-            case 14: return x.faults();
-            case 15: return x.fault(a, b);
-            case 16: return x.best(a);
-            case 17: return x.lot(a, b);
-            case 18: return x.from(a, b);
-            default:
-                try {
-                    return x.share(a, b);
-                } catch (ArithmeticException e) {
-                    return THREW;
-                }
-        }
+        String name = Calls.NAMES[which];
+        String call = "run " + seed + ": " + name + "(" + a + ", " + b + ", " + c + ")";
+        check.same(call, Calls.ask(x, name, a, b, c), due(which, a, b, c));
     }
 
     private long due(int which, int a, int b, int c) {
@@ -176,7 +144,7 @@ public final class ModelTest {
                 try {
                     return model.share(a, b);
                 } catch (ArithmeticException e) {
-                    return THREW;
+                    return Calls.THREW;
                 }
         }
     }

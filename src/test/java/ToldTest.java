@@ -1,15 +1,5 @@
 /** Promises 9 to 17: what is told of stocks, set-ups, times, prices and faults. */
-public final class ToldTest {
-    private static final int SETUP = 0;
-    private static final int HOLD = 1;
-    private static final int LEAST = 2;
-    private static final int SHELF = 3;
-    private static final int START = 4;
-    private static final int TIME = 5;
-    private static final int SETUP_TIME = 6;
-    private static final int LEAD = 7;
-    private static final int[] WILD = {Integer.MIN_VALUE, -5, -4, -3, -2, -1, Integer.MAX_VALUE};
-
+public final class ToldTest extends Given {
     private static final Check check = new Check();
 
     public static void main(String[] args) {
@@ -30,26 +20,6 @@ public final class ToldTest {
         promise17Refusals();
         promise16And17AsManyAsMayBe();
         check.end("ToldTest");
-    }
-
-    private static LotRules withItems(int periods, int items) {
-        LotRules x = new LotRules(periods);
-        for (int i = 0; i < items; i++) {
-            x.item();
-        }
-        return x;
-    }
-
-    private static void needs(LotRules x, int item, int... row) {
-        for (int p = 1; p <= row.length; p++) {
-            x.need(item, p, row[p - 1]);
-        }
-    }
-
-    private static void lots(LotRules x, int item, int... row) {
-        for (int p = 1; p <= row.length; p++) {
-            x.make(item, p, row[p - 1]);
-        }
     }
 
     private static void stocks(String what, LotRules x, int item, long... due) {
